@@ -216,6 +216,28 @@ public final class AskTest {
         Check.same("p12 twenty and two", x.been(0), 22);
         Check.same("p12 the latest of many", x.got(0, 0), 21);
         Check.same("p12 the last that is kept", x, x.got(15, 0), 6, 0);
+        lateFrames();
+    }
+
+    /** Of two that come at tick 10 the one that comes behind is got first; both are of the station 0. */
+    private static void lateFrames() {
+        RankedRing x = Texts.ring(THREE + "monitor c;");
+        x.tick(10);
+        Check.same("p12 the token is at c", x.way(1), 2);
+        x.send(0, 1, 0);
+        x.send(0, 2, 3);
+        x.tick(4);
+        Check.same("p12 the greater rank", x.got(0, 0), 1);
+        Check.same("p12 its age", x.got(0, 5), 4);
+        // its level is as it was, 0: the wish for 0 is not above it; taken at 17, got at 20
+        x.tick(6);
+        Check.same("p12 the other one", x.got(0, 0), 0);
+        Check.same("p12 its tick", x.got(0, 4), 20);
+        Check.same("p12 its age", x.got(0, 5), 10);
+        Check.same("p15 of rank 0, got", x.ranks(0, 1), 1);
+        Check.same("p15 of rank 0, ages", x.ranks(0, 2), 10);
+        Check.same("p11 ages", x.been(8), 14);
+        Check.same("p11 the greatest age", x.been(9), 10);
     }
 
     private static void raise() {

@@ -19,6 +19,7 @@ public final class DoTest {
         claims();
         beacons();
         beaconsOfOneStation();
+        lowerings();
         plans();
         run();
         notice();
@@ -355,6 +356,52 @@ public final class DoTest {
         Check.same("p28 none is on", x.many(6), 9);
     }
 
+    /** Station a raises, and lowers to a wish and then to the old level, as the token comes by. */
+    private static void lowerings() {
+        RankedRing x = Texts.ring(THREE + "monitor b;send a c 1;send a b 6;");
+        // purge at b (4), a takes 1 at 6, got at 9 and raised to 1 for the other one
+        x.tick(9);
+        Check.same("p28 raised", x.raise(0, 0, 0) * 10 + x.raise(0, 0, 1), 1);
+        x.take(0);
+        x.send(2, 0, 5);
+        x.send(0, 1, 5);
+        x.send(1, 2, 4);
+        // b takes at level 1 (10), c wishes for 5 (11), a for 5, b raises to 5 (13), c takes (14), a wishes for 5
+        x.tick(4);
+        Check.same("p28 b raised", x.raise(1, 0, 0) * 10 + x.raise(1, 0, 1), 15);
+        x.tick(1);
+        Check.same("p28 c took it", x.way(9), 2);
+        x.tick(2);
+        Check.same("p28 marked at b, a's wish", x.way(3) * 10 + x.way(4), 51);
+        x.take(3);
+        x.send(0, 1, 3);
+        x.tick(1);
+        // got at c (17): 5 is not above the level 5, and stays a wish
+        Check.same("p28 the wish stays", x.way(0) * 100 + x.way(2) * 10 + x.way(3), 155);
+        x.tick(2);
+        // b (19) marks it and lowers it to the wish 5, which is no lower: not marked, no wish, the couple stays
+        Check.same("p28 lowered to the wish", x.way(2) * 10 + x.way(3), 50);
+        Check.same("p28 not marked then", x.way(4), 0);
+        Check.same("p28 the couple stays", x.raise(1, 0, 0) * 10 + x.raise(1, 0, 1), 15);
+        x.tick(2);
+        Check.same("p28 a's wish for 3", x.way(1) * 100 + x.way(2) * 10 + x.way(3), 53);
+        x.tick(1);
+        Check.same("p28 lowered to 3", x.way(2) * 10 + x.way(3), 30);
+        Check.same("p28 not marked then", x.way(4), 0);
+        Check.same("p28 the couple is lowered", x.raise(1, 0, 0) * 10 + x.raise(1, 0, 1), 13);
+        x.tick(2);
+        Check.same("p28 a took its 3", x.way(0) * 10 + x.way(9), 25);
+        x.tick(4);
+        // got at a (27); b (28) lowers to 1, and drops the couple
+        Check.same("p28 lowered to the old level", x.way(1) * 10 + x.way(2), 11);
+        Check.same("p28 not marked then", x.way(4), 0);
+        Check.same("p28 the couple goes", x.station(1, 4), 0);
+        Check.same("p38 a's is left", x, x.lowered(), 2, 0);
+        x.tick(2);
+        Check.same("p28 level 0", x.way(1) * 10 + x.way(2), 0);
+        Check.same("p28 none is left", x.station(0, 4), 0);
+    }
+
     /** With draws of 16 by 16 the seed 0 draws 29573 first: 3 of 16. */
     private static void plans() {
         RankedRing x = Texts.ring(THREE);
@@ -517,5 +564,46 @@ public final class DoTest {
         x.add(50);
         Check.same("p33 it goes on as it went", digest(x), second);
         Check.same("p33 from there", gone, first);
+        backToAll();
+        backToBeacon();
+    }
+
+    private static void backToAll() {
+        RankedRing x = Texts.ring(THREE + "monitor a;send b c 4;");
+        x.tick(6);
+        x.send(0, 1, 3);
+        x.tick(1);
+        Check.same("p33 marked, copied, wished for", x.way(3) * 100 + x.way(4) * 10 + x.way(8), 311);
+        Texts.load(x, "station \nA");
+        Check.same("p33 no ring any more", x.fault(1), 9);
+        Texts.feed(x, THREE + "send a c 2;");
+        long then = digest(x);
+        x.mark();
+        x.load(12);
+        x.mark();
+        x.back();
+        x.run(30, 4, 16);
+        x.feed(-1, -1, -1, -1, -1);
+        x.back();
+        Check.same("p33 all", digest(x), then);
+        Check.same("p33 what fault() tells, kind", x.fault(0), 1);
+        Check.same("p33 what fault() tells, place", x.fault(1), 9);
+        x.tick(1);
+        Check.same("p33 rank, from and age are back", x.got(0, 3) * 100 + x.got(0, 1) * 10 + x.got(0, 5), 418);
+        Check.same("p33 the tape", x, x.load(THREE.length() + 11), 3, 0);
+        Check.same("p33 its text", x.ranks(2, 0), 1);
+    }
+
+    private static void backToBeacon() {
+        RankedRing x = Texts.ring(THREE + "monitor a;break b 0;");
+        x.tick(5);
+        x.mark();
+        x.mend();
+        x.tick(100);
+        x.back();
+        Check.same("p33 silent", x.many(6), 5);
+        Check.same("p33 a beacon", x.beacon(0) * 100 + x.beacon(1) * 10 + x.beacon(2), 212);
+        x.tick(2);
+        Check.same("p33 it goes on", x.many(1), 5);
     }
 }

@@ -205,18 +205,41 @@ public final class PaperTest {
         return x;
     }
 
+    /** Compares the gain with the sum over all; answers how many are got on one of the two ways alone. */
+    private static int sum(String what, RankedRing x) {
+        int sum = 0;
+        int oneWay = 0;
+        for (int number = 0; number < x.many(4); number++) {
+            if (x.way(0) == 2 && x.way(9) == number) {
+                continue;
+            }
+            int soon = x.when(number, false);
+            boolean reached = x.status() == 0;
+            int plain = x.when(number, true);
+            boolean reachedPlain = x.status() == 0;
+            sum += reached && reachedPlain ? plain - soon : 0;
+            oneWay += reached != reachedPlain ? 1 : 0;
+        }
+        Check.same(what, x, x.gain(), sum, 0);
+        return oneWay;
+    }
+
+    /** A break takes one frame by wishes and another one plain. */
+    private static void onOneWay() {
+        int oneWay = 0;
+        for (int seed = 0; seed < 300; seed++) {
+            RankedRing x = six(seed);
+            x.snap(seed % 6, seed % 2);
+            oneWay += sum("p42 gain of seed " + seed + " with a break", x);
+        }
+        Check.same("p42 some are got on one way alone", oneWay > 0, true);
+    }
+
     private static void sums() {
         for (int seed = 1700; seed < 1800; seed++) {
-            RankedRing x = six(seed);
-            int sum = 0;
-            for (int number = 0; number < x.many(4); number++) {
-                int soon = x.when(number, false);
-                boolean reached = x.status() == 0 && !(x.way(0) == 2 && x.way(9) == number);
-                int plain = x.when(number, true);
-                sum += reached && x.status() == 0 ? plain - soon : 0;
-            }
-            Check.same("p42 gain of seed " + seed, x, x.gain(), sum, 0);
+            sum("p42 gain of seed " + seed, six(seed));
         }
+        onOneWay();
         RankedRing sooner = six(1766);
         Check.same("p42 sooner", sooner, sooner.gain(), 6, 0);
     }

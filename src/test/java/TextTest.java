@@ -90,10 +90,11 @@ public final class TextTest {
     private static void loadForgets() {
         RankedRing x = Texts.ring(THREE + "monitor a;send b c 7;send b a 3;break c 0;");
         x.mend();
-        x.send(1, 1, 1);
+        x.send(1, 0, 1);
         x.run(100, 7, 12);
         x.notice();
         x.mark();
+        x.next(40, false);
         Check.same("p04 load", x, Texts.load(x, THREE), 3, 0);
         int[] many = {3, 7, -1, 0, 0, 0, 0, 1, 0, -1, -1};
         for (int what = 0; what < many.length; what++) {
@@ -176,6 +177,10 @@ public final class TextTest {
         fault("station a 5", 2, 11);
         fault("station a 5 6;", 2, 12);
         fault("station a 5;;", 2, 12);
+        fault("ztation a 5;", 2, 0);
+        fault("statiom a 5;", 2, 0);
+        fault("stations a 5;", 2, 0);
+        fault("of a;", 2, 0);
         fault("station a 5;off send;", 2, 16);
         fault("station a 5;station a 6;", 3, 20);
         fault("off a;", 3, 4);
