@@ -62,6 +62,14 @@ public final class RankedRing {
     private static final int GOTS = 16;
     private static final int GOT_WIDTH = 6;
 
+    // What ticks on paper go by for.
+    private static final int TILL_QUIET = 0;
+    private static final int TILL_GOT = 1;
+    private static final int TILL_LOWERED = 2;
+    private static final int TILL_TOKEN = 3;
+    private static final int TILL_PURGE = 4;
+    private static final int TILL_FALL = 5;
+
     private final Tape tape;
     private final Ring ring;
     private final Ring scratch;
@@ -466,7 +474,7 @@ public final class RankedRing {
     // ---- on paper
 
     public int quiet(boolean plain) {
-        return giveReached(paper.ticksTillQuiet(plain));
+        return giveReached(paper.ticksTill(TILL_QUIET, NONE, plain));
     }
 
     public int when(int number, boolean plain) {
@@ -476,7 +484,7 @@ public final class RankedRing {
         if (!ring.hasFrame(number)) {
             return fail(IS_NONE);
         }
-        return giveReached(paper.ticksTillGot(number, plain));
+        return giveReached(paper.ticksTill(TILL_GOT, number, plain));
     }
 
     public int next(int i, boolean plain) {
@@ -491,19 +499,20 @@ public final class RankedRing {
     }
 
     public int lowered() {
-        return giveReached(paper.ticksTillLowered());
+        return giveReached(paper.ticksTill(TILL_LOWERED, NONE, false));
     }
 
     public int healed() {
-        return giveReached(paper.ticksTillToken());
+        return giveReached(paper.ticksTill(TILL_TOKEN, NONE, false));
     }
 
     public int purged() {
-        return giveReached(paper.ticksTillPurge());
+        return giveReached(paper.ticksTill(TILL_PURGE, NONE, false));
     }
 
     public int blamed() {
-        return giveReached(paper.nextToFall());
+        int ticks = paper.ticksTill(TILL_FALL, NONE, false);
+        return giveReached(ticks == NONE ? NONE : scratch.fellNow);
     }
 
     public int gain() {
@@ -1237,6 +1246,13 @@ public final class RankedRing {
             book.copyFrom(other.book);
             ticks = other.ticks;
             framesEver = other.framesEver;
+            forgetLatestTick();
+        }
+
+        void forgetLatestTick() {
+            gotNow = NONE;
+            fellNow = NONE;
+            purgedNow = false;
         }
 
         int tellOf(int station, int what) {
@@ -1351,9 +1367,7 @@ public final class RankedRing {
 
         void passTick(boolean plain) {
             ticks++;
-            gotNow = NONE;
-            fellNow = NONE;
-            purgedNow = false;
+            forgetLatestTick();
             if (way.kind == NOTHING) {
                 passSilentTick();
             } else {
@@ -1506,10 +1520,11 @@ public final class RankedRing {
             this.copy = copy;
         }
 
-        int ticksTillQuiet(boolean plain) {
+        /** In how many ticks it comes to that; the copy stands as it is then. */
+        int ticksTill(int goal, int number, boolean plain) {
             copy.copyFrom(ring);
             for (int i = 0; i <= PAPER_TICKS; i++) {
-                if (copy.isQuiet()) {
+                if (hasCome(goal, number)) {
                     return i;
                 }
                 copy.passTick(plain);
@@ -1517,15 +1532,23 @@ public final class RankedRing {
             return NONE;
         }
 
-        int ticksTillGot(int number, boolean plain) {
-            copy.copyFrom(ring);
-            for (int i = 1; i <= PAPER_TICKS; i++) {
-                copy.passTick(plain);
-                if (copy.gotNow == number) {
-                    return i;
-                }
+        boolean hasCome(int goal, int number) {
+            switch (goal) {
+                case TILL_QUIET:
+                    return copy.isQuiet();
+                case TILL_GOT:
+                    return copy.gotNow == number;
+                case TILL_LOWERED:
+                    return copy.raises.isEmpty();
+                case TILL_TOKEN:
+                    return copy.way.kind == TOKEN;
+                case TILL_PURGE:
+                    return copy.purgedNow;
+                case TILL_FALL:
+                    return copy.fellNow != NONE;
+                default:
+                    return false;
             }
-            return NONE;
         }
 
         int numberGot(int which, boolean plain) {
@@ -1554,50 +1577,6 @@ public final class RankedRing {
                     return greatest;
                 }
                 copy.passTick(false);
-            }
-            return NONE;
-        }
-
-        int ticksTillLowered() {
-            copy.copyFrom(ring);
-            for (int i = 0; i <= PAPER_TICKS; i++) {
-                if (copy.raises.isEmpty()) {
-                    return i;
-                }
-                copy.passTick(false);
-            }
-            return NONE;
-        }
-
-        int ticksTillToken() {
-            copy.copyFrom(ring);
-            for (int i = 0; i <= PAPER_TICKS; i++) {
-                if (copy.way.kind == TOKEN) {
-                    return i;
-                }
-                copy.passTick(false);
-            }
-            return NONE;
-        }
-
-        int ticksTillPurge() {
-            copy.copyFrom(ring);
-            for (int i = 1; i <= PAPER_TICKS; i++) {
-                copy.passTick(false);
-                if (copy.purgedNow) {
-                    return i;
-                }
-            }
-            return NONE;
-        }
-
-        int nextToFall() {
-            copy.copyFrom(ring);
-            for (int i = 1; i <= PAPER_TICKS; i++) {
-                copy.passTick(false);
-                if (copy.fellNow != NONE) {
-                    return copy.fellNow;
-                }
             }
             return NONE;
         }
