@@ -97,38 +97,28 @@ public final class AskTest {
         Check.same("p08 it moves up", x.waits(1, 0, 0), 2);
     }
 
-    private static void wayIs(String when, RankedRing x, int... due) {
-        for (int what = 0; what < 10; what++) {
-            if (what < due.length) {
-                Check.same("p09 " + when + " " + what, x, x.way(what), due[what], 0);
-            } else {
-                Check.refused("p09 " + when + " " + what, x, x.way(what), 6);
-            }
-        }
-    }
-
     private static void way() {
         RankedRing x = Texts.ring(THREE + "monitor a;send b c 4;send b a 2;");
         x.tick(3);
-        wayIs("silent", x, 0);
+        Check.way("p09 silent", x, 0);
         x.tick(1);
-        wayIs("the first token", x, 1, 0, 0, 0, 0);
+        Check.way("p09 the first token", x, 1, 0, 0, 0, 0);
         x.tick(1);
-        wayIs("the frame", x, 2, 1, 0, 0, 0, 1, 2, 4, 0, 0);
+        Check.way("p09 the frame", x, 2, 1, 0, 0, 0, 1, 2, 4, 0, 0);
         x.tick(1);
-        wayIs("copied", x, 2, 2, 0, 0, 0, 1, 2, 4, 1, 0);
+        Check.way("p09 copied", x, 2, 2, 0, 0, 0, 1, 2, 4, 1, 0);
         x.send(0, 1, 3);
         x.tick(1);
-        wayIs("marked, with a wish", x, 2, 0, 0, 3, 1, 1, 2, 4, 1, 0);
+        Check.way("p09 marked, with a wish", x, 2, 0, 0, 3, 1, 1, 2, 4, 1, 0);
         x.tick(1);
-        wayIs("raised", x, 1, 1, 3, 0, 0);
+        Check.way("p09 raised", x, 1, 1, 3, 0, 0);
         x.tick(2);
-        wayIs("taken at its level", x, 2, 0, 3, 0, 0, 0, 1, 3, 0, 2);
+        Check.way("p09 taken at its level", x, 2, 0, 3, 0, 0, 0, 1, 3, 0, 2);
         x.tick(3);
         // a had no more; b's 2 is only a wish
-        wayIs("got", x, 1, 0, 3, 2, 0);
+        Check.way("p09 got", x, 1, 0, 3, 2, 0);
         x.tick(1);
-        wayIs("lowered to the wish and taken", x, 2, 1, 2, 0, 0, 1, 0, 2, 0, 1);
+        Check.way("p09 lowered to the wish and taken", x, 2, 1, 2, 0, 0, 1, 0, 2, 0, 1);
         Check.refused("p09 below", x, x.way(-1), 1);
         Check.refused("p09 above", x, x.way(10), 1);
         RankedRing y = new RankedRing();

@@ -39,6 +39,17 @@ final class Check {
         same(what + ", its status", x.status(), 0);
     }
 
+    /** What is on its way, by way(0), way(1) and so on; what is not told has none. */
+    static void way(String when, RankedRing x, int... due) {
+        for (int what = 0; what < 10; what++) {
+            if (what < due.length) {
+                same(when + ", way " + what, x, x.way(what), due[what], 0);
+            } else {
+                refused(when + ", way " + what, x, x.way(what), 6);
+            }
+        }
+    }
+
     static void end(String name) {
         System.out.println(name + ": " + passed + " passed, " + failed + " failed");
         if (failed > 0) {

@@ -13,6 +13,9 @@ public final class PaperTest {
         blamed();
         gain();
         allStays();
+        plainly();
+        purgedLater();
+        nowAndNext();
         limit();
         Check.end("PaperTest");
     }
@@ -244,29 +247,133 @@ public final class PaperTest {
         Check.same("p42 sooner", sooner, sooner.gain(), 6, 0);
     }
 
-    private static void allStays() {
-        RankedRing x = busy();
-        RankedRing y = busy();
+    private static void askAll(RankedRing x) {
         x.quiet(false);
+        x.quiet(true);
+        x.when(1, false);
         x.when(1, true);
         x.next(1, false);
+        x.next(1, true);
         x.peak();
         x.lowered();
         x.healed();
         x.purged();
         x.blamed();
         x.gain();
-        for (int tick = 0; tick < 20; tick++) {
-            for (int a = 0; a < 10; a++) {
-                Check.same("p34 stays, many", x.many(a), y.many(a));
-                Check.same("p34 stays, way", x.way(a), y.way(a));
-                Check.same("p34 stays, been", x.been(a), y.been(a));
-                Check.same("p34 stays, event", x.event(a, 1), y.event(a, 1));
-                Check.same("p34 stays, got", x.got(a, 4), y.got(a, 4));
-            }
-            x.tick(1);
-            y.tick(1);
+    }
+
+    /** At each tick of a ring with a frame, raises, a break, a beacon and a fall. */
+    private static RankedRing staged(int ticks) {
+        RankedRing x = busy();
+        x.tick(3);
+        x.notice();
+        x.tick(ticks % 10 + 1);
+        if (ticks >= 10) {
+            x.snap(1, 1);
+            x.tick(ticks - 9);
         }
+        return x;
+    }
+
+    private static void allStays() {
+        for (int ticks = 0; ticks < 30; ticks++) {
+            RankedRing x = staged(ticks);
+            askAll(x);
+            Look.sameThrough("s4 all stays as it is, " + ticks, x, staged(ticks));
+        }
+        RankedRing x = new RankedRing();
+        askAll(x);
+        Look.sameThrough("s4 a new one stays as it is", x, new RankedRing());
+    }
+
+    /** At tick 7 a's frame 0 is at b, with the wish 5 for b's frame 1; then 2 of rank 7 waits at a. */
+    private static RankedRing wished() {
+        RankedRing x = Texts.ring(THREE + "station z 99;monitor z;");
+        x.tick(5);
+        x.off(3);
+        x.send(0, 1, 2);
+        x.tick(1);
+        x.send(1, 0, 5);
+        x.tick(1);
+        x.send(0, 2, 7);
+        Check.way("s4 a wish", x, 2, 1, 0, 5, 0, 0, 1, 2, 1, 0);
+        return x;
+    }
+
+    /** The wish of now stays; no other one rises, not even that for the first where it is got. */
+    private static void plainly() {
+        RankedRing x = wished();
+        // a (9) raises to 5; b takes at 10, got at 13; a (15) lowers to 0 and takes, got at 18
+        Check.same("p35 b's, plain", x, x.when(1, true), 6, 0);
+        Check.same("p35 a's, plain", x, x.when(2, true), 11, 0);
+        Check.same("p36 b's is the next but one, plain", x, x.next(1, true), 1, 0);
+        Check.same("p34 plain", x, x.quiet(true), 11, 0);
+        // a (9) raises to 7; a (12) lowers to 5 and takes, got at 15; b takes at 16, got at 19
+        Check.same("p35 b's", x, x.when(1, false), 12, 0);
+        Check.same("p35 a's", x, x.when(2, false), 8, 0);
+        Check.same("p36 a's is the next but one", x, x.next(1, false), 2, 0);
+        Check.same("p34 by wishes", x, x.quiet(false), 12, 0);
+        Check.same("p35 that on its way", x, x.when(0, false) * 10 + x.when(0, true), 22, 0);
+        Check.same("p42 a's 3 sooner, b's 6 later", x, x.gain(), -3, 0);
+        Check.same("p37 by wishes alone", x, x.peak(), 7, 0);
+        Check.same("p38 there are none yet", x, x.lowered(), 0, 0);
+        x.tick(2);
+        Check.same("p38 raised now", x.station(0, 4), 1);
+        // a (12) lowers to 5, and takes; b takes at 16, got at 19; a (21) lowers to 0
+        Check.same("p38 twelve", x, x.lowered(), 12, 0);
+        x.tick(11);
+        Check.same("p38 a couple still", x, x.lowered(), 1, 0);
+        x.tick(1);
+        Check.same("p38 none then", x, x.lowered(), 0, 0);
+    }
+
+    /** A level that nobody lowers; a wish makes b raise it, and lower it again unmarked: a later purge. */
+    private static void purgedLater() {
+        RankedRing x = Texts.ring(THREE + "monitor a;send b c 4;send b a 2;");
+        x.tick(8);
+        x.off(1);
+        x.on(1);
+        x.take(1);
+        x.tick(1);
+        x.send(1, 0, 7);
+        x.send(2, 0, 3);
+        Check.way("s4 level 2, at c", x, 1, 2, 2, 0, 0);
+        // marked at 10, taken at b (11), got there (14) and raised to 3, taken at c (15), got there (18), marked (19),
+        // lowered at b (20), marked at a (22), purged (25); plain it is purged at 22
+        Check.same("p40 by wishes", x, x.purged(), 16, 0);
+        x.tick(16);
+        Check.same("p40 then", x.event(0, 0) * 100 + x.event(0, 1), 325);
+    }
+
+    /** Each of them is of now, or of one tick from now. */
+    private static void nowAndNext() {
+        RankedRing x = Texts.ring("station a 5;monitor a;");
+        Check.same("p39 two ticks", x, x.healed(), 2, 0);
+        Check.same("p40 two ticks", x, x.purged(), 2, 0);
+        x.tick(1);
+        Check.same("p39 one tick", x, x.healed(), 1, 0);
+        Check.same("p40 one tick", x, x.purged(), 1, 0);
+        x.tick(1);
+        Check.same("p39 it is", x, x.healed(), 0, 0);
+        Check.refused("p40 that of now is none to come", x, x.purged(), 7);
+        x = Texts.ring(THREE + "monitor b;send b a 1;");
+        x.tick(9);
+        Check.same("p34 one tick", x, x.quiet(false) * 10 + x.quiet(true), 11, 0);
+        Check.same("p35 one tick", x, x.when(0, false) * 10 + x.when(0, true), 11, 0);
+        Check.same("p36 it is the next", x, x.next(0, false) * 10 + x.next(0, true), 0, 0);
+        Check.refused("p36 the only one", x, x.next(1, false), 7);
+        x = Texts.ring("station a 5;break a 0;");
+        x.tick(2);
+        Check.same("p41 one tick", x, x.blamed(), 0, 0);
+        x.tick(1);
+        Check.refused("p41 that of now is none to come", x, x.blamed(), 7);
+        x = Texts.ring(THREE + "monitor a;send b c 4;send b a 2;");
+        x.tick(8);
+        x.take(1);
+        x.tick(2);
+        Check.same("p38 one tick", x, x.lowered(), 1, 0);
+        x.tick(1);
+        Check.same("p38 there are none", x, x.lowered(), 0, 0);
     }
 
     /** The 3,000th tick counts, no later one does. */
