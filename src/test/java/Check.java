@@ -15,6 +15,10 @@ final class Check {
         }
     }
 
+    static void same(String what, String got, String want) {
+        same(what + ", " + got, got.equals(want), true);
+    }
+
     static void same(String what, boolean got, boolean want) {
         same(what, got ? 1 : 0, want ? 1 : 0);
     }

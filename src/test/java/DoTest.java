@@ -141,6 +141,30 @@ public final class DoTest {
         Check.same("p22 n is 1", x.way(0), 1);
         x.tick(1);
         Check.same("p22 round to itself", x.way(1), 0);
+        offOfEach();
+    }
+
+    /** Each station in turn raises, and goes off: its raises go, those of no other. */
+    private static void offOfEach() {
+        for (int station = 0; station < 3; station++) {
+            RankedRing x = Texts.ring(THREE + "monitor a;");
+            x.tick(4 + station);
+            x.monitor((station + 2) % 3);
+            x.send(station, (station + 1) % 3, 7);
+            x.send(station, (station + 1) % 3, 3);
+            x.tick(6);
+            Check.same("p22 raised at " + station, x.station(station, 5) * 10 + x.station(station, 6), 3);
+            x.mark();
+            x.off((station + 1) % 3);
+            Check.same("p22 that of another one stays", x.station(station, 4), 1);
+            x.back();
+            Check.done("p22 off " + station, x, x.off(station));
+            Check.same("p22 no raise at " + station, x.station(station, 4), 0);
+            Check.same("p22 no old one", x, x.station(station, 5), -1, 0);
+            Check.same("p22 no new one", x, x.station(station, 6), -1, 0);
+            Check.same("p22 what waits stays", x.station(station, 2), 1);
+            Check.same("p22 the level stays", x.way(2), 3);
+        }
     }
 
     private static void on() {
@@ -565,7 +589,23 @@ public final class DoTest {
         Check.same("p33 it goes on as it went", digest(x), second);
         Check.same("p33 from there", gone, first);
         backToAll();
+        backToFrame();
         backToBeacon();
+    }
+
+    /** Behind the mark another frame, of another rank and age, comes on its way in its place. */
+    private static void backToFrame() {
+        RankedRing x = Texts.ring(THREE + "monitor a;send b c 4;");
+        x.tick(6);
+        x.mark();
+        x.send(2, 0, 6);
+        x.tick(3);
+        Check.way("p33 another one", x, 2, 2, 0, 0, 0, 2, 0, 6, 0, 1);
+        Check.same("p33 back", x, x.back(), 0, 0);
+        Check.way("p33 that of then", x, 2, 2, 0, 0, 0, 1, 2, 4, 1, 0);
+        x.tick(2);
+        Check.same("p33 got, of its rank", x.got(0, 3) * 10 + x.ranks(4, 1), 41);
+        Check.same("p33 of its age", x.got(0, 5) * 100 + x.been(8) * 10 + x.been(9), 888);
     }
 
     private static void backToAll() {
