@@ -20,7 +20,6 @@ public final class DoTest {
         beacons();
         beaconsOfOneStation();
         lowerings();
-        plans();
         run();
         notice();
         stale();
@@ -424,27 +423,6 @@ public final class DoTest {
         x.tick(2);
         Check.same("p28 level 0", x.way(1) * 10 + x.way(2), 0);
         Check.same("p28 none is left", x.station(0, 4), 0);
-    }
-
-    /** With draws of 16 by 16 the seed 0 draws 29573 first: 3 of 16. */
-    private static void plans() {
-        RankedRing x = Texts.ring(THREE);
-        Check.same("p29 none got", x, x.run(1, 0, 3), 0, 0);
-        Check.same("p29 3 is not below 3", x.many(4) + x.been(7), 0);
-        RankedRing y = Texts.ring(THREE);
-        y.run(1, 0, 4);
-        Check.same("p29 3 is below 4", y.many(4) + y.been(7), 1);
-        // 29573 * 3877 + 29573 leaves 49998 (1 of 3), 49998 so 13219 (0 of 3), 13219 so 51612 (2 of 8)
-        long s = 0;
-        long[] draws = new long[4];
-        for (int i = 0; i < 4; i++) {
-            s = (s * 3877 + 29573) % 139968;
-            draws[i] = s;
-        }
-        int from = (int) (draws[1] * 3 / 139968);
-        int to = (int) (draws[2] * 3 / 139968);
-        Check.same("p29 it waits or is refused", y.many(3), from == to ? 0 : 1);
-        Check.same("p29 its rank", y.ranks((int) (draws[3] * 8 / 139968), 0), from == to ? 0 : 1);
     }
 
     private static void run() {

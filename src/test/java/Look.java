@@ -1,21 +1,37 @@
-import java.util.ArrayList;
-import java.util.List;
+import java.util.LinkedHashMap;
+import java.util.Map;
+import java.util.Set;
+import java.util.StringJoiner;
+import java.util.TreeSet;
 
-/** All that can be seen of a ring, to compare two of them. */
+/** All that can be seen of a ring, to compare two of them, or one with what it was. */
 final class Look {
     private final RankedRing x;
-    private final List<String> names = new ArrayList<>();
-    private final List<Integer> answers = new ArrayList<>();
+    private final Map<String, Integer> answers = new LinkedHashMap<>();
 
-    private Look(RankedRing x) {
+    Look(RankedRing x) {
         this.x = x;
         stations();
         rest();
     }
 
     private void see(String name, int answer) {
-        names.add(name);
-        answers.add(answer);
+        answers.put(name, answer);
+    }
+
+    /** What is another answer later, or is there at one of the two times alone (_ at the other one). */
+    String changesTo(Look later) {
+        Set<String> names = new TreeSet<>(answers.keySet());
+        names.addAll(later.answers.keySet());
+        StringJoiner changes = new StringJoiner(", ");
+        for (String name : names) {
+            Integer was = answers.get(name);
+            Integer is = later.answers.get(name);
+            if (was == null || !was.equals(is)) {
+                changes.add(name + ": " + (was == null ? "_" : was) + " " + (is == null ? "_" : is));
+            }
+        }
+        return changes.toString();
     }
 
     private void stations() {
@@ -63,14 +79,8 @@ final class Look {
         see("its place", x.fault(1));
     }
 
-    /** One by one what is seen of both has to be the same. */
     static void same(String what, RankedRing x, RankedRing y) {
-        Look there = new Look(x);
-        Look due = new Look(y);
-        Check.same(what + ": how much is seen", there.names.equals(due.names), true);
-        for (int i = 0; i < Math.min(there.answers.size(), due.answers.size()); i++) {
-            Check.same(what + ": " + due.names.get(i), there.answers.get(i), due.answers.get(i));
-        }
+        Check.same(what + ": what is seen of it, and not of that which is due", new Look(x).changesTo(new Look(y)), "");
     }
 
     /** The same, and what cannot be seen: the tape's length, and all that comes of it. Both are changed by that. */
@@ -79,9 +89,9 @@ final class Look {
         Check.same(what + ": the tape", x.feed(0, 0, 0, 0, 0), y.feed(0, 0, 0, 0, 0));
         x.run(60, 77, 9);
         y.run(60, 77, 9);
-        for (int what2 = 0; what2 <= 9; what2++) {
-            Check.same(what + ": later, been " + what2, x.been(what2), y.been(what2));
-            Check.same(what + ": later, way " + what2, x.way(what2), y.way(what2));
+        for (int i = 0; i <= 9; i++) {
+            Check.same(what + ": later, been " + i, x.been(i), y.been(i));
+            Check.same(what + ": later, way " + i, x.way(i), y.way(i));
         }
     }
 }
